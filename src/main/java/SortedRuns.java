@@ -52,6 +52,7 @@ public final class SortedRuns {
     private final Sheet sheet = new Sheet();
     private final long[] answerKeys = new long[ASKED_MOST];
     private final long[] answerValues = new long[ASKED_MOST];
+
     private int answerCount = 0;
     private int generation = 1;
     private int nextNumber = 1;
@@ -145,7 +146,7 @@ public final class SortedRuns {
             return NONE;
         }
         blendTable();
-        if (countPages() > space.free) {
+        if (countPages(space.free) > space.free) {
             return NONE;
         }
         blendTable();
@@ -177,7 +178,7 @@ public final class SortedRuns {
             }
             taken = upTo;
             blendRuns(taken);
-            need = countPages();
+            need = countPages(mostPages(level));
         } while (level < LEVEL_LAST && need > mostPages(level));
         if (need > space.free) {
             return MERGE_REFUSED;
@@ -186,7 +187,7 @@ public final class SortedRuns {
     }
 
     private static int mostPages(int level) {
-        return level == 1 ? 8 : 24;
+        return level == 1 ? 8 : level == 2 ? 24 : PAGES_MOST;
     }
 
     private int writeMerged(int level, int taken, int need) {
@@ -245,9 +246,10 @@ public final class SortedRuns {
         }
     }
 
-    private int countPages() {
+    /** How many pages the blend needs; it is not gone through further once they are too many. */
+    private int countPages(int most) {
         int count = 0;
-        for (int i = 0; i < STEPS_MOST && blend.step(); i++) {
+        for (int i = 0; i < STEPS_MOST && count <= most && blend.advance(); i++) {
             if (count == 0 || !sheet.fits(blend.key, blend.fate)) {
                 count++;
                 sheet.beginPage(0);
@@ -264,7 +266,7 @@ public final class SortedRuns {
         int page = space.leastFree(HEADS);
         made.firstPage = page;
         sheet.beginPage(made.number);
-        for (int i = 0; i < STEPS_MOST && blend.step(); i++) {
+        for (int i = 0; i < STEPS_MOST && blend.advance(); i++) {
             if (!sheet.fits(blend.key, blend.fate)) {
                 int next = space.leastFree(page + 1);
                 writePage(made, page, next);
@@ -451,7 +453,7 @@ public final class SortedRuns {
 
     private int gatherAnswers(long from, long to) {
         int count = 0;
-        for (int i = 0; i < STEPS_MOST && blend.step() && blend.key <= to; i++) {
+        for (int i = 0; i < STEPS_MOST && blend.advance() && blend.key <= to; i++) {
             if (blend.key >= from) {
                 noteAnswer(blend.key, blend.fate.value);
                 count++;
@@ -733,7 +735,7 @@ public final class SortedRuns {
         final Fate fate = new Fate();
         int size = 0;
 
-        /** How many keys are below this one. */
+        /** How many of the keys are below this one. */
         int placeOf(long key) {
             int low = 0;
             int high = size;
@@ -934,7 +936,7 @@ public final class SortedRuns {
         }
 
         int leastFree(int from) {
-            for (int page = from; has(page); page++) {
+            for (int page = Math.max(HEADS, from); page < count; page++) {
                 if (!taken[page]) {
                     return page;
                 }
@@ -1336,7 +1338,8 @@ public final class SortedRuns {
             }
         }
 
-        boolean step() {
+        /** Goes to the next key; false when there is none. */
+        boolean advance() {
             for (int i = 0; i < STEPS_MOST && findLeast(); i++) {
                 fate.begin(NOTHING, 0);
                 for (int s = 0; s < inputCount; s++) {

@@ -14,6 +14,7 @@ final class FlushMergeTest {
         mergeRefused();
         mergeBad();
         mergeLevels();
+        mergeLimits();
         mergeCountsWithoutEnds();
         leastPages();
         Check.end("FlushMergeTest");
@@ -250,6 +251,35 @@ final class FlushMergeTest {
         Check.due(what + ": merged", x.merge() > REFUSED, true);
         Check.due(what + ": pages read", x.told(2), before + read);
         Check.due(what + ": level", x.run(0, 1), level);
+    }
+
+    /** Groups of 27 keys that fill a page to the last octet, when they are in one run. */
+    private static void putGroups(SortedRuns x, int first, int end) {
+        for (int group = first; group < end; group++) {
+            for (int i = 0; i < 27; i++) {
+                if (x.told(1) == 64) {
+                    x.flush();
+                }
+                x.put(group * 256L + i, 1);
+            }
+        }
+        x.flush();
+    }
+
+    private static void mergeLimits() {
+        int[][] cases = {{8, 0, 1, 8}, {9, 0, 2, 9}, {12, 12, 2, 24}, {12, 13, 3, 25}};
+        for (int[] c : cases) {
+            SortedRuns x = new SortedRuns(200);
+            putGroups(x, 0, c[0]);
+            x.merge();
+            if (c[1] > 0) {
+                putGroups(x, c[0], c[0] + c[1]);
+                x.merge();
+            }
+            Check.due("one run", x.told(4), 1);
+            Check.due("level of " + c[3] + " pages", x.run(0, 1), c[2]);
+            Check.due("pages", x.run(0, 2), c[3]);
+        }
     }
 
     private static void mergeCountsWithoutEnds() {

@@ -23,7 +23,7 @@ final class RoomTest {
         SortedRuns x = new SortedRuns(1024);
         for (int i = 0; i < 512; i++) {
             if (way == 0 || way == 1 && i < 30) {
-                x.many(1 + i % 3, 1000, i * 300L, 1 + i % 5);
+                x.many(1 + i % 3, 1000, i % 17 * 1000L, 1 + i % 2);
             } else if (way == 1) {
                 x.range(-1, Long.MIN_VALUE, Long.MAX_VALUE);
             } else if (way == 2) {
