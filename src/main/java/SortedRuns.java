@@ -36,6 +36,7 @@ public final class SortedRuns {
     private static final int STATE_END = 2;
     private static final int STATE_BAD = 3;
     private static final int FLUSH_CUT = 0;
+    private static final int FLUSHED = 1;
     private static final int MARK_CUT = -2;
     private static final int MERGE_REFUSED = -1000000;
     private static final int MERGE_CUT = -2000000;
@@ -115,7 +116,7 @@ public final class SortedRuns {
                 if (now.countUpTo(0) == FRESH_MOST) {
                     mergeRuns();
                 }
-                if (down || flushTable() <= 0) {
+                if (down || flushTable() != FLUSHED) {
                     return came;
                 }
             }
@@ -133,7 +134,8 @@ public final class SortedRuns {
 
     public int flush() throws IllegalStateException {
         requireUp();
-        return flushTable();
+        int ended = flushTable();
+        return ended == FLUSHED ? now.runs[0].number : ended;
     }
 
     public int merge() throws IllegalStateException {
@@ -141,6 +143,7 @@ public final class SortedRuns {
         return mergeRuns();
     }
 
+    /** FLUSHED, FLUSH_CUT or NONE; no run's number, which may be 0 when a head was opened that says so. */
     private int flushTable() {
         if (table.size == 0 || now.countUpTo(0) >= FRESH_MOST) {
             return NONE;
@@ -160,7 +163,7 @@ public final class SortedRuns {
             return FLUSH_CUT;
         }
         table.size = 0;
-        return made.number;
+        return FLUSHED;
     }
 
     private int mergeRuns() {
@@ -211,13 +214,11 @@ public final class SortedRuns {
         return down ? MERGE_CUT : space.free - freeBefore;
     }
 
-    private int letGo(Run run) {
+    private void letGo(Run run) {
         run.holders--;
-        if (run.holders > 0) {
-            return 0;
+        if (run.holders == 0) {
+            space.giveBack(run);
         }
-        space.giveBack(run);
-        return run.pageCount;
     }
 
     private boolean readRuns(RunList list, int first, int end) {
@@ -326,12 +327,9 @@ public final class SortedRuns {
             return NONE;
         }
         if (table.size > 0) {
-            int flushed = flushTable();
-            if (flushed == NONE) {
-                return NONE;
-            }
-            if (flushed == FLUSH_CUT) {
-                return MARK_CUT;
+            int ended = flushTable();
+            if (ended != FLUSHED) {
+                return ended == FLUSH_CUT ? MARK_CUT : NONE;
             }
         }
         marks[number].keep(now);
@@ -349,12 +347,12 @@ public final class SortedRuns {
 
     public int release(int mark) throws IllegalStateException, IndexOutOfBoundsException {
         RunList gone = runsOfMark(mark);
-        int freed = 0;
+        int freeBefore = space.free;
         for (int i = 0; i < gone.size && i < RUNS_MOST; i++) {
-            freed += letGo(gone.runs[i]);
+            letGo(gone.runs[i]);
         }
         gone.forget();
-        return freed;
+        return space.free - freeBefore;
     }
 
     private RunList runsOfMark(int mark) {
@@ -911,14 +909,15 @@ public final class SortedRuns {
     /** Which pages are free, and of the others what is known without reading them. */
     private static final class Space {
         final int count;
-        final boolean[] taken;
+        // How many runs have a page: more than one can, when a head was opened that says so.
+        final int[] holders;
         final int[] next;
         final long[] firstKeys;
         int free;
 
         Space(int count) {
             this.count = count;
-            this.taken = new boolean[count];
+            this.holders = new int[count];
             this.next = new int[count];
             this.firstKeys = new long[count];
             this.free = count - HEADS;
@@ -930,14 +929,14 @@ public final class SortedRuns {
 
         void clear() {
             for (int i = 0; i < count; i++) {
-                taken[i] = false;
+                holders[i] = 0;
             }
             free = count - HEADS;
         }
 
         int leastFree(int from) {
             for (int page = Math.max(HEADS, from); page < count; page++) {
-                if (!taken[page]) {
+                if (holders[page] == 0) {
                     return page;
                 }
             }
@@ -948,8 +947,8 @@ public final class SortedRuns {
             if (!has(page)) {
                 return;
             }
-            free -= taken[page] ? 0 : 1;
-            taken[page] = true;
+            free -= holders[page] == 0 ? 1 : 0;
+            holders[page]++;
             next[page] = following;
             firstKeys[page] = firstKey;
         }
@@ -965,8 +964,8 @@ public final class SortedRuns {
         void giveBack(Run run) {
             int page = run.firstPage;
             for (int i = 0; i < run.pageCount && has(page); i++) {
-                free += taken[page] ? 1 : 0;
-                taken[page] = false;
+                holders[page]--;
+                free += holders[page] == 0 ? 1 : 0;
                 page = next[page];
             }
         }
