@@ -156,6 +156,19 @@ final class Model {
         return padded(o);
     }
 
+    static int[] pageOctets(int run, int next, List<Entry> entries) {
+        List<Integer> o = new ArrayList<>();
+        number(o, run, 2);
+        number(o, next, 2);
+        number(o, entries.size(), 1);
+        Entry before = null;
+        for (Entry e : entries) {
+            o.addAll(entryOctets(e, before));
+            before = e;
+        }
+        return padded(o);
+    }
+
     static List<Integer> keyOctets(long key) {
         List<Integer> o = new ArrayList<>();
         number(o, key, 8);
@@ -233,18 +246,9 @@ final class Model {
         r.number = nextNumber++;
         r.level = level;
         for (int i = 0; i < layout.size(); i++) {
-            List<Integer> o = new ArrayList<>();
-            number(o, r.number, 2);
-            number(o, i + 1 < layout.size() ? free.get(i + 1) : 0, 2);
-            number(o, layout.get(i).size(), 1);
-            Entry before = null;
-            for (Entry e : layout.get(i)) {
-                o.addAll(entryOctets(e, before));
-                before = e;
-            }
             r.pages.add(free.get(i));
             r.entries.add(layout.get(i));
-            write(free.get(i), padded(o));
+            write(free.get(i), pageOctets(r.number, i + 1 < layout.size() ? free.get(i + 1) : 0, layout.get(i)));
         }
         return r;
     }
@@ -257,6 +261,12 @@ final class Model {
             generation--;
             throw c;
         }
+    }
+
+    void lay(int number, int[] first) {
+        int[] page = Arrays.copyOf(Arrays.copyOf(first, 120), 128);
+        seal(page, number);
+        octets[number] = page;
     }
 
     // ---- calls
@@ -304,7 +314,7 @@ final class Model {
                 if (fresh() == 6) {
                     merge();
                 }
-                if (isDown || flush() < 1) {
+                if (isDown || flush() == -1 || isDown) {
                     return i;
                 }
             }
@@ -424,8 +434,8 @@ final class Model {
         }
         if (!table.isEmpty()) {
             int flushed = flush();
-            if (flushed < 1) {
-                return flushed == 0 ? -2 : -1;
+            if (flushed == -1 || isDown) {
+                return isDown ? -2 : -1;
             }
         }
         marks.set(n, new ArrayList<>(now));
@@ -597,14 +607,35 @@ final class Model {
         return n;
     }
 
+    boolean headRight(int h) {
+        int generation = read(h, 0, 4);
+        int count = octets[h][6];
+        if (!right(h) || generation == 0 || generation % 2 != h || count > 9) {
+            return false;
+        }
+        List<Integer> levels = new ArrayList<>();
+        for (int i = 0; i < count; i++) {
+            levels.add(octets[h][9 + 7 * i]);
+            if (read(h, 12 + 7 * i, 2) == 0) {
+                return false;
+            }
+        }
+        int fresh = 0;
+        while (fresh < count && levels.get(fresh) == 0) {
+            fresh++;
+        }
+        List<Integer> others = levels.subList(fresh, count);
+        return fresh <= 6 && List.of(1, 2, 3).containsAll(others)
+                && others.equals(new ArrayList<>(new TreeSet<>(others)));
+    }
+
     int open() {
         if (!isDown) {
             throw new IllegalStateException();
         }
         int head = -1;
         for (int h = 0; h < 2; h++) {
-            int g = read(h, 0, 4);
-            if (right(h) && g > 0 && g % 2 == h && (head < 0 || g > read(head, 0, 4))) {
+            if (headRight(h) && (head < 0 || read(h, 0, 4) > read(head, 0, 4))) {
                 head = h;
             }
         }
@@ -619,7 +650,7 @@ final class Model {
             int page = read(head, 10 + 7 * i, 2);
             for (int j = read(head, 12 + 7 * i, 2); j > 0; j--) {
                 reads++;
-                if (page < 2 || !right(page) || read(page, 0, 2) != r.number || !decode(r, page)) {
+                if (page < 2 || !right(page) || read(page, 0, 2) != r.number || !takePage(r, page)) {
                     return -2 - page;
                 }
                 page = read(page, 2, 2);
@@ -633,27 +664,10 @@ final class Model {
         return now.size();
     }
 
-    private boolean decode(Run r, int page) {
-        List<Entry> list = new ArrayList<>();
-        int[] key = new int[8];
-        int p = 5;
-        for (int n = octets[page][4]; n > 0; n--) {
-            for (int i = octets[page][p++]; i < 8; i++) {
-                key[i] = octets[page][p++];
-            }
-            long k = 0;
-            for (int i = 0; i < 8; i++) {
-                k = k << 8 | (i == 0 ? key[i] ^ 128 : key[i]);
-            }
-            int kind = octets[page][p++];
-            long z = 0;
-            for (int shift = 0; kind != 2; shift += 7) {
-                z |= (long) (octets[page][p] & 127) << shift;
-                if (octets[page][p++] < 128) {
-                    break;
-                }
-            }
-            list.add(new Entry(k, kind, z % 2 == 0 ? z >>> 1 : ~(z >>> 1)));
+    boolean takePage(Run r, int page) {
+        List<Entry> list = decode(octets[page]);
+        if (list == null || list.isEmpty()) {
+            return false;
         }
         for (int i = 0; i < list.size(); i++) {
             boolean first = i == 0 && r.entries.isEmpty();
@@ -664,7 +678,59 @@ final class Model {
         }
         r.pages.add(page);
         r.entries.add(list);
-        return !list.isEmpty();
+        return true;
+    }
+
+    /** Null when something is not written as told. */
+    static List<Entry> decode(int[] page) {
+        List<Entry> list = new ArrayList<>();
+        int[] key = new int[8];
+        int p = 5;
+        for (int n = page[4]; n > 0; n--) {
+            int[] old = key.clone();
+            int shared = page[p++];
+            if (shared > (list.isEmpty() ? 0 : 8) || p + 8 - shared >= 120) {
+                return null;
+            }
+            for (int i = shared; i < 8; i++) {
+                key[i] = page[p++];
+            }
+            if (!list.isEmpty() && shared < 8 && old[shared] == key[shared]) {
+                return null;
+            }
+            int kind = page[p++];
+            if (kind < 1 || kind > 3) {
+                return null;
+            }
+            long z = 0;
+            for (int shift = 0; kind != 2; shift += 7) {
+                if (p >= 120 || shift > 63) {
+                    return null;
+                }
+                int octet = page[p++];
+                if (shift > 0 && octet == 0 || shift == 63 && octet > 1) {
+                    return null;
+                }
+                z |= (long) (octet & 127) << shift;
+                if (octet < 128) {
+                    break;
+                }
+            }
+            long k = 0;
+            for (int i = 0; i < 8; i++) {
+                k = k << 8 | (i == 0 ? key[i] ^ 128 : key[i]);
+            }
+            list.add(new Entry(k, kind, z % 2 == 0 ? z >>> 1 : ~(z >>> 1)));
+            if (p >= 120 && n > 1) {
+                return null;
+            }
+        }
+        for (; p < 120; p++) {
+            if (page[p] != 0) {
+                return null;
+            }
+        }
+        return list;
     }
 
     int told(int what) {

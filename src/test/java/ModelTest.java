@@ -1,6 +1,9 @@
+import java.util.ArrayList;
+import java.util.Collections;
+import java.util.List;
 import java.util.Random;
 
-/** Runs of calls drawn from fixed seeds: SortedRuns and Model must answer alike. */
+/** Runs of calls drawn from fixed seeds, some on forged pages: SortedRuns and Model must answer alike. */
 final class ModelTest {
     private interface Ask {
         long answer();
@@ -22,7 +25,7 @@ final class ModelTest {
     private ModelTest(int seed) {
         random = new Random(seed);
         int pages = SIZES[random.nextInt(SIZES.length)];
-        flavour = random.nextInt(4);
+        flavour = random.nextInt(6);
         x = new SortedRuns(pages);
         m = new Model(pages);
         name = "seed " + seed + ", " + pages + " pages: ";
@@ -107,6 +110,9 @@ final class ModelTest {
 
     private void oneCall() {
         if (m.isDown && random.nextInt(3) == 0) {
+            if (flavour > 3 && random.nextInt(4) != 0) {
+                forge();
+            }
             same("open()", () -> x.open(), () -> m.open());
             return;
         }
@@ -185,6 +191,92 @@ final class ModelTest {
             int what = random.nextInt(8) == 0 ? random.nextInt(5) - 1 : random.nextInt(2);
             same("at(" + i + ", " + what + ")", () -> x.at(at, what), () -> m.at(at, what));
         }
+    }
+
+    /** Pages and a head that are right by their sums, but of which no plain run of calls comes to think. */
+    private void forge() {
+        List<Integer> pages = new ArrayList<>();
+        for (int p = 2; p < m.pageCount; p++) {
+            if (chain(p) > 0) {
+                pages.add(p);
+            }
+        }
+        if (pages.isEmpty()) {
+            return;
+        }
+        for (int i = random.nextInt(3); i > 0; i--) {
+            forgePage(pages.get(random.nextInt(pages.size())));
+        }
+        forgeHead(pages);
+    }
+
+    /** Of how many pages a run could be that begins with this one. */
+    private int chain(int first) {
+        Model.Run run = new Model.Run();
+        for (int p = first; p > 1 && m.right(p) && m.read(p, 0, 2) == m.read(first, 0, 2) && m.takePage(run, p);) {
+            p = m.read(p, 2, 2);
+        }
+        return run.pages.size();
+    }
+
+    private void forgePage(int page) {
+        int[] octets = m.octets[page].clone();
+        List<Model.Entry> list = Model.decode(octets);
+        int pick = random.nextInt(9);
+        if (pick == 0) {
+            octets[random.nextInt(120)] ^= 1 << random.nextInt(8);
+        } else if (pick == 1) {
+            octets[5 + random.nextInt(20)] = random.nextInt(12);
+        } else if (pick == 2) {
+            octets[2] = 0;
+            octets[3] = random.nextInt(Math.min(m.pageCount + 1, 256));
+        } else if (list != null) {
+            List<Model.Entry> some = new ArrayList<>();
+            for (Model.Entry e : list) {
+                if (random.nextInt(6) != 0) {
+                    some.add(new Model.Entry(e.key, pick == 3 ? 1 + random.nextInt(3) : e.kind, e.value));
+                }
+            }
+            if (!some.isEmpty() && Model.layout(some).size() == 1) {
+                octets = Model.pageOctets(m.read(page, 0, 2), m.read(page, 2, 2), some);
+            }
+        }
+        lay(page, octets);
+    }
+
+    private void forgeHead(List<Integer> pages) {
+        int head = random.nextInt(2);
+        int generation = m.generation + 1 + random.nextInt(3);
+        generation += generation % 2 == head ? 0 : 1;
+        int next = random.nextInt(3) == 0 ? random.nextInt(3) : m.nextNumber + random.nextInt(5) - 2;
+        List<Integer> levels = new ArrayList<>(Collections.nCopies(random.nextInt(random.nextInt(20) == 0 ? 9 : 7), 0));
+        for (int level = 1; level < 4; level++) {
+            for (int i = random.nextInt(random.nextInt(20) == 0 ? 3 : 2); i > 0; i--) {
+                levels.add(random.nextInt(40) == 0 ? random.nextInt(6) : level);
+            }
+        }
+        List<Integer> o = new ArrayList<>();
+        Model.number(o, generation, 4);
+        Model.number(o, Math.max(0, next), 2);
+        Model.number(o, levels.size(), 1);
+        for (int level : levels) {
+            int first = pages.get(random.nextInt(pages.size()));
+            int most = Math.max(1, chain(first));
+            boolean odd = random.nextInt(60) == 0;
+            Model.number(o, odd ? random.nextInt(9) : m.read(first, 0, 2), 2);
+            Model.number(o, level, 1);
+            Model.number(o, odd ? random.nextInt(9) : first, 2);
+            Model.number(o, odd ? random.nextInt(9) : random.nextInt(3) == 0 ? 1 + random.nextInt(most) : most, 2);
+        }
+        while (o.size() < 120) {
+            o.add(random.nextInt(90) == 0 ? random.nextInt(256) : 0);
+        }
+        lay(head, Model.padded(o.subList(0, 120)));
+    }
+
+    private void lay(int page, int[] octets) {
+        Forge.lay(x, page, octets);
+        m.lay(page, octets);
     }
 
     private void callTrouble() {
