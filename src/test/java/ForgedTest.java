@@ -18,6 +18,8 @@ final class ForgedTest {
         pagesRight();
         pagesWrong();
         nextPages();
+        headIsNoPageOfARun();
+        greatNumbers();
         Check.end("ForgedTest");
     }
 
@@ -284,5 +286,33 @@ final class ForgedTest {
         Check.due("it is read", y.told(2), 1);
         SortedRuns z = withHead(changed(headOf(0), 10, 1));
         Check.due("first page 258", z.open(), -2 - 258);
+    }
+
+    /** Octets that are a right head and just as much a page of the run (0, on page 1) which it names. */
+    private static void headIsNoPageOfARun() {
+        SortedRuns x = withHead(0, 0, 0, 3, 1, 0, 1, 0, 0, 0, 0, 1, 0, 1, 2);
+        Check.due("page 1 is a head", x.open(), -2 - 1);
+        Check.due("it is read", x.told(2), 1);
+        SortedRuns y = withHead(0, 0, 0, 3, 1, 0, 1, 0, 0, 0, 0, 2, 0, 1, 2);
+        Forge.lay(y, 2, 0, 0, 0, 3, 1, 0, 1, 0, 0, 0, 0, 2, 0, 1, 2);
+        Check.due("page 2 with these octets is one of a run", y.open(), 1);
+    }
+
+    private static void greatNumbers() {
+        SortedRuns x = new SortedRuns(1024);
+        x.down();
+        Forge.lay(x, 1, 0, 1, 0, 3, 18, 52, 1, 2, 1, 2, 3, 255, 0, 2);
+        Forge.lay(x, 1023, 2, 1, 1, 2, 1, 0, 128, 0, 0, 0, 0, 0, 0, 1, 1, 6);
+        Forge.lay(x, 258, 2, 1, 0, 0, 1, 0, 128, 0, 0, 0, 0, 0, 0, 2, 1, 8);
+        Check.due("open", x.open(), 1);
+        Check.due("generation", x.told(6), 65539);
+        Check.due("number", x.run(0, 0), 513);
+        Check.due("first page", x.run(0, 4), 1023);
+        Check.due("of the next page", x.get(-1, 2), 4);
+        x.put(1, 1);
+        Check.due("next number", x.flush(), 4660);
+        Check.duePage("head", x, 0, 0, 1, 0, 4, 18, 53, 2, 18, 52, 0, 0, 2, 0, 1, 2, 1, 2, 3, 255, 0, 2);
+        Check.due("merge: that of level 2 is not taken", x.merge(), 0);
+        Check.due("runs", x.told(4), 2);
     }
 }
