@@ -60,30 +60,58 @@ final class Check {
         return wrong;
     }
 
+    /** All 128 octets of a page: as many calls. */
+    static int[] page(House x, int page) {
+        int[] octets = new int[128];
+        for (int i = 0; i < 128; i++) {
+            octets[i] = x.octet(page, i);
+        }
+        return octets;
+    }
+
     /** The sum of the first 120 octets of a page, as section 1 tells it. */
-    static long sumOf(SortedRuns x, int page) {
+    static long sumOf(int[] octets, int page) {
         long sum = page;
         for (int i = 0; i < 120; i++) {
-            sum ^= x.octet(page, i);
+            sum ^= octets[i];
             sum *= 1099511628211L;
         }
         return sum;
     }
 
-    static long sumOn(SortedRuns x, int page) {
+    static long sumOn(int[] octets) {
         long sum = 0;
         for (int i = 120; i < 128; i++) {
-            sum = sum << 8 | x.octet(page, i);
+            sum = sum << 8 | octets[i];
         }
         return sum;
     }
 
+    static void dueSum(String what, House x, int page, boolean right) {
+        int[] octets = page(x, page);
+        due(what + ": sum of page " + page, sumOn(octets) == sumOf(octets, page), right);
+    }
+
     /** The octets of a page from the first on, then 0s, then a right sum. */
-    static void duePage(String what, SortedRuns x, int page, int... octets) {
+    static void duePage(String what, House x, int page, int... octets) {
+        int[] there = page(x, page);
         for (int i = 0; i < 120; i++) {
-            due(what + " octet(" + page + ", " + i + ")", x.octet(page, i), i < octets.length ? octets[i] : 0);
+            due(what + " octet(" + page + ", " + i + ")", there[i], i < octets.length ? octets[i] : 0);
         }
-        due(what + " sum of page " + page, sumOn(x, page), sumOf(x, page));
+        due(what + " sum of page " + page, sumOn(there), sumOf(there, page));
+    }
+
+    /** Octets of a page from one on. */
+    static void dueOctets(String what, House x, int page, int from, int... octets) {
+        for (int i = 0; i < octets.length; i++) {
+            due(what + " octet(" + page + ", " + (from + i) + ")", x.octet(page, from + i), octets[i]);
+        }
+    }
+
+    static void dueTold(String what, House x, int... told) {
+        for (int i = 0; i < 8; i++) {
+            due(what + " told(" + i + ")", x.told(i), told[i]);
+        }
     }
 
     static void end(String name) {

@@ -20,13 +20,13 @@ final class DownTest {
     }
 
     private static void cutPage() {
-        SortedRuns x = new SortedRuns(10);
+        House x = new House(10);
         x.many(1, 40, 0, 1);
         x.cut(2, 4);
         Check.due("cut in the second page", x.flush(), 0);
         Check.due("down", x.told(7), 1);
         Check.due("written, the cut one too", x.told(3), 2);
-        Check.due("the first page is whole", Check.sumOn(x, 2), Check.sumOf(x, 2));
+        Check.dueSum("the first page is whole", x, 2, true);
         Check.due("a cut page begins", x.octet(3, 1), 1);
         Check.due("and the others stay", x.octet(3, 4), 0);
         Check.due("no head", x.octet(0, 3), 0);
@@ -40,7 +40,7 @@ final class DownTest {
     private static void cutHead() {
         int[] behind = {0, 3, 4, 60, 119};
         for (int k : behind) {
-            SortedRuns x = new SortedRuns(10);
+            House x = new House(10);
             x.put(1, 1);
             x.flush();
             x.put(2, 2);
@@ -58,7 +58,7 @@ final class DownTest {
     }
 
     private static void cutMerge() {
-        SortedRuns x = new SortedRuns(10);
+        House x = new House(10);
         x.put(1, 1);
         x.mark();
         x.put(2, 2);
@@ -79,7 +79,7 @@ final class DownTest {
     }
 
     private static void cutCounts() {
-        SortedRuns x = new SortedRuns(20);
+        House x = new House(20);
         x.cut(3, 0);
         x.put(1, 1);
         Check.due("two writes", x.flush(), 1);
@@ -104,7 +104,7 @@ final class DownTest {
     }
 
     private static void cutWrong() {
-        SortedRuns x = new SortedRuns(20);
+        House x = new House(20);
         x.cut(1, 5);
         int[][] wrong = {{-1, 0}, {1001, 0}, {0, -1}, {0, 128}, {Integer.MIN_VALUE, 0}, {Integer.MAX_VALUE, 0},
             {1, Integer.MIN_VALUE}, {1, Integer.MAX_VALUE}};
@@ -120,7 +120,7 @@ final class DownTest {
     }
 
     private static void downOnce() {
-        SortedRuns x = new SortedRuns(20);
+        House x = new House(20);
         x.put(1, 1);
         x.mark();
         Check.due("down", x.down(), true);
@@ -132,7 +132,7 @@ final class DownTest {
     }
 
     private static void opens() {
-        SortedRuns x = new SortedRuns(30);
+        House x = new House(30);
         Check.stateThrown("not down", () -> x.open());
         x.many(1, 60, 0, 1);
         x.flush();
@@ -158,14 +158,14 @@ final class DownTest {
         Check.due("no head is right", x.open(), -1);
         Check.due("down still", x.told(7), 1);
         Check.due("generation", x.told(6), 5);
-        SortedRuns y = new SortedRuns(5);
+        House y = new House(5);
         y.poke(1, 50, 1);
         y.down();
         Check.due("page 0 has a right sum, but generation 0", y.open(), -1);
     }
 
     private static void openOlderHead() {
-        SortedRuns x = new SortedRuns(30);
+        House x = new House(30);
         x.put(1, 1);
         x.flush();
         x.put(1, 2);
@@ -183,7 +183,7 @@ final class DownTest {
     }
 
     private static void openPageOfAnother() {
-        SortedRuns x = new SortedRuns(30);
+        House x = new House(30);
         x.put(1, 1);
         x.flush();
         x.put(2, 2);
@@ -204,7 +204,7 @@ final class DownTest {
 
     /** A head of two pages, of which the first is written anew with none behind it. */
     private static void openPageMissing() {
-        SortedRuns x = new SortedRuns(30);
+        House x = new House(30);
         x.many(1, 40, 0, 1);
         x.flush();
         x.poke(0, 0, 1);
@@ -213,14 +213,14 @@ final class DownTest {
         x.put(5, 5);
         x.cut(2, 1);
         Check.due("cut behind the octet that was turned", x.flush(), 0);
-        Check.due("so the head is right", Check.sumOn(x, 0), Check.sumOf(x, 0));
+        Check.dueSum("so the head is right", x, 0, true);
         Check.due("page 0 should be more of the run", x.open(), -2);
         Check.due("it counts as read", x.told(2), 2);
     }
 
     private static void openKeysFall() {
         for (long from : new long[] {100, -100}) {
-            SortedRuns x = new SortedRuns(30);
+            House x = new House(30);
             x.remove(0);
             x.flush();
             x.many(1, 40, 0, 1);
@@ -241,7 +241,7 @@ final class DownTest {
     }
 
     private static void openBadPage() {
-        SortedRuns x = new SortedRuns(30);
+        House x = new House(30);
         x.many(1, 60, 0, 1);
         x.flush();
         x.put(9, 9);
@@ -255,7 +255,7 @@ final class DownTest {
     }
 
     private static void toldThings() {
-        SortedRuns x = new SortedRuns(30);
+        House x = new House(30);
         x.many(1, 60, 0, 1);
         x.flush();
         x.put(1, 1);

@@ -21,7 +21,7 @@ final class FlushMergeTest {
     }
 
     private static void flushWrites() {
-        SortedRuns x = new SortedRuns(10);
+        House x = new House(10);
         x.put(258, 3);
         x.put(-2, -3);
         x.remove(259);
@@ -39,11 +39,11 @@ final class FlushMergeTest {
         Check.due("flush", x.flush(), 2);
         Check.duePage("generation 3", x, 1, 0, 0, 0, 3, 0, 3, 2,
                 0, 2, 0, 0, 3, 0, 1, 0, 1, 0, 0, 2, 0, 1);
-        Check.duePage("generation 2 stays", x, 0, 0, 0, 0, 2, 0, 2, 1, 0, 1, 0, 0, 2, 0, 1);
+        Check.dueOctets("generation 2 stays", x, 0, 0, 0, 0, 0, 2, 0, 2, 1, 0, 1, 0, 0, 2, 0, 1);
     }
 
     private static void values() {
-        SortedRuns x = new SortedRuns(10);
+        House x = new House(10);
         long[] values = {0, -1, 63, -64, 64, -65, 8191, 8192};
         for (int i = 0; i < values.length; i++) {
             x.put(i, values[i]);
@@ -64,7 +64,7 @@ final class FlushMergeTest {
     }
 
     private static void severalPages() {
-        SortedRuns x = new SortedRuns(10);
+        House x = new House(10);
         x.many(1, 60, 0, 1);
         Check.due("flush", x.flush(), 1);
         // 11 octets for the first of a page, 4 for the others: 27 into 115.
@@ -80,7 +80,7 @@ final class FlushMergeTest {
     }
 
     private static void exactFit() {
-        SortedRuns x = new SortedRuns(10);
+        House x = new House(10);
         // 10 octets and then 3 for each END: 36 fill 115 octets to the last.
         x.many(2, 36, 0, 1);
         x.flush();
@@ -92,7 +92,7 @@ final class FlushMergeTest {
     }
 
     private static void flushRefused() {
-        SortedRuns x = new SortedRuns(20);
+        House x = new House(20);
         Check.due("no entries", x.flush(), SortedRuns.NONE);
         for (int i = 1; i <= 6; i++) {
             x.put(i, i);
@@ -102,7 +102,7 @@ final class FlushMergeTest {
         Check.due("six of level 0", x.flush(), SortedRuns.NONE);
         Check.due("the table stays", x.told(1), 1);
         Check.due("nothing written", x.told(3), 12);
-        SortedRuns y = new SortedRuns(4);
+        House y = new House(4);
         y.many(1, 60, 0, 1);
         Check.due("too few free pages", y.flush(), SortedRuns.NONE);
         Check.due("nothing written", y.told(3), 0);
@@ -112,7 +112,7 @@ final class FlushMergeTest {
     }
 
     private static void mergeFolds() {
-        SortedRuns x = new SortedRuns(20);
+        House x = new House(20);
         Check.due("nothing of level 0", x.merge(), REFUSED);
         x.put(1, 10);
         x.put(2, 20);
@@ -144,7 +144,7 @@ final class FlushMergeTest {
     }
 
     /** Four runs of 64 keys, 3 pages each, which become 10 pages when merged. */
-    private static void fourRuns(SortedRuns x, long from) {
+    private static void fourRuns(House x, long from) {
         for (int i = 0; i < 4; i++) {
             x.many(1, 64, from + 64 * i, 1);
             x.flush();
@@ -153,7 +153,7 @@ final class FlushMergeTest {
     }
 
     private static void mergeKeepsEnds() {
-        SortedRuns x = new SortedRuns(60);
+        House x = new House(60);
         fourRuns(x, 0);
         Check.due("12 pages become 10", x.merge(), 2);
         Check.due("more than 8: level 2", x.run(0, 1), 2);
@@ -174,7 +174,7 @@ final class FlushMergeTest {
     }
 
     private static void mergeToNothing() {
-        SortedRuns x = new SortedRuns(20);
+        House x = new House(20);
         x.put(1, 1);
         x.flush();
         x.remove(1);
@@ -188,7 +188,7 @@ final class FlushMergeTest {
     }
 
     private static void mergeRefused() {
-        SortedRuns x = new SortedRuns(5);
+        House x = new House(5);
         x.many(1, 27, 0, 1);
         x.flush();
         x.many(1, 27, 100, 1);
@@ -204,7 +204,7 @@ final class FlushMergeTest {
     }
 
     private static void mergeBad() {
-        SortedRuns x = new SortedRuns(30);
+        House x = new House(30);
         x.many(1, 60, 0, 1);
         x.flush();
         x.many(1, 60, 0, 1);
@@ -216,7 +216,7 @@ final class FlushMergeTest {
     }
 
     private static void mergeLevels() {
-        SortedRuns x = new SortedRuns(300);
+        House x = new House(300);
         fourRuns(x, 0);
         dueMerge("10 pages", x, 12, 2);
         x.put(-1, 0);
@@ -246,7 +246,7 @@ final class FlushMergeTest {
         Check.due("runs stay", x.told(4), 6);
     }
 
-    private static void dueMerge(String what, SortedRuns x, int read, int level) {
+    private static void dueMerge(String what, House x, int read, int level) {
         int before = x.told(2);
         Check.due(what + ": merged", x.merge() > REFUSED, true);
         Check.due(what + ": pages read", x.told(2), before + read);
@@ -254,13 +254,13 @@ final class FlushMergeTest {
     }
 
     /** Groups of 27 keys that fill a page to the last octet, when they are in one run. */
-    private static void putGroups(SortedRuns x, int first, int end) {
+    private static void putGroups(House x, int first, int end) {
         for (int group = first; group < end; group++) {
-            for (int i = 0; i < 27; i++) {
-                if (x.told(1) == 64) {
-                    x.flush();
-                }
-                x.put(group * 256L + i, 1);
+            int now = Math.min(27, 64 - x.told(1));
+            x.many(1, now, group * 256L, 1);
+            if (now < 27) {
+                x.flush();
+                x.many(1, 27 - now, group * 256L + now, 1);
             }
         }
         x.flush();
@@ -269,7 +269,7 @@ final class FlushMergeTest {
     private static void mergeLimits() {
         int[][] cases = {{8, 0, 1, 8}, {9, 0, 2, 9}, {12, 12, 2, 24}, {12, 13, 3, 25}};
         for (int[] c : cases) {
-            SortedRuns x = new SortedRuns(200);
+            House x = new House(200);
             putGroups(x, 0, c[0]);
             x.merge();
             if (c[1] > 0) {
@@ -283,7 +283,7 @@ final class FlushMergeTest {
     }
 
     private static void mergeCountsWithoutEnds() {
-        SortedRuns x = new SortedRuns(100);
+        House x = new House(100);
         x.many(1, 64, 0, 100000);
         x.flush();
         x.many(1, 64, 6400000, 100000);
@@ -298,7 +298,7 @@ final class FlushMergeTest {
     }
 
     private static void leastPages() {
-        SortedRuns x = new SortedRuns(30);
+        House x = new House(30);
         x.put(1, 1);
         x.flush();
         x.put(2, 2);

@@ -11,7 +11,7 @@ final class MarkTest {
     }
 
     private static void numbers() {
-        SortedRuns x = new SortedRuns(20);
+        House x = new House(20);
         for (int i = 0; i < 8; i++) {
             Check.due("mark", x.mark(), i);
         }
@@ -29,7 +29,7 @@ final class MarkTest {
     }
 
     private static void marksKeepRuns() {
-        SortedRuns x = new SortedRuns(20);
+        House x = new House(20);
         x.put(1, 10);
         x.put(2, 20);
         Check.due("mark", x.mark(), 0);
@@ -53,7 +53,7 @@ final class MarkTest {
     }
 
     private static void marksFlush() {
-        SortedRuns x = new SortedRuns(20);
+        House x = new House(20);
         x.put(1, 1);
         Check.due("mark", x.mark(), 0);
         Check.due("flushed", x.told(4), 1);
@@ -66,7 +66,7 @@ final class MarkTest {
     }
 
     private static void markRefused() {
-        SortedRuns x = new SortedRuns(20);
+        House x = new House(20);
         for (int i = 0; i < 6; i++) {
             x.put(i, i);
             x.flush();
@@ -75,14 +75,14 @@ final class MarkTest {
         x.put(7, 7);
         Check.due("the flush can not be", x.mark(), SortedRuns.NONE);
         Check.due("marks", x.told(5), 1);
-        SortedRuns y = new SortedRuns(4);
+        House y = new House(4);
         y.many(1, 60, 0, 1);
         Check.due("too few pages", y.mark(), SortedRuns.NONE);
         Check.due("the table stays", y.told(1), 60);
     }
 
     private static void markCut() {
-        SortedRuns x = new SortedRuns(20);
+        House x = new House(20);
         x.mark();
         x.put(1, 1);
         x.cut(2, 10);
@@ -97,7 +97,7 @@ final class MarkTest {
     }
 
     private static void releaseWrong() {
-        SortedRuns x = new SortedRuns(20);
+        House x = new House(20);
         int[] wrong = {Integer.MIN_VALUE, -2, -1, 0, 7, 8, Integer.MAX_VALUE};
         for (int mark : wrong) {
             Check.indexThrown("release(" + mark + ")", () -> x.release(mark));

@@ -74,6 +74,7 @@ final class Model {
     int writes = 0;
     int cutM = 0;
     int cutK = 0;
+    int highest = 1; // the greatest page that was written
     List<Entry> asked = new ArrayList<>();
 
     Model(int pages) {
@@ -116,6 +117,7 @@ final class Model {
 
     void write(int number, int[] page) {
         seal(page, number);
+        highest = Math.max(highest, number);
         writes++;
         boolean cutNow = cutM == 1;
         if (cutM > 0) {

@@ -9,69 +9,99 @@ final class ModelTest {
         long answer();
     }
 
+    private interface Call {
+        long make(House on);
+    }
+
     private static final int[] SIZES = {4, 5, 7, 12, 25, 40, 70, 120, 400};
     private static final long[] EDGES = {
         Long.MIN_VALUE, Long.MIN_VALUE + 1, Long.MAX_VALUE, Long.MAX_VALUE - 1, -1, 0, 1, 63, 64, 8191, 8192,
         -64, -65, 255, 256, 1L << 32, -(1L << 40), 1L << 62, -(1L << 62), -(1L << 62) - 1
     };
+    // Calls that are kept for the look at all that one can see, at the end.
+    private static final int LOOK = 230;
+    private static final int REPEATS = 3;
 
     private final Random random;
-    private final SortedRuns x;
+    private final int pages;
+    private final House x;
     private final Model m;
     private final String name;
     private final int flavour;
+    private final List<Call> made = new ArrayList<>();
     private long lastFrom = 0;
 
     private ModelTest(int seed) {
         random = new Random(seed);
-        int pages = SIZES[random.nextInt(SIZES.length)];
-        flavour = random.nextInt(6);
-        x = new SortedRuns(pages);
+        pages = SIZES[random.nextInt(SIZES.length)];
+        flavour = random.nextInt(Forge.can() ? 6 : 4);
+        x = new House(pages);
         m = new Model(pages);
         name = "seed " + seed + ", " + pages + " pages: ";
     }
 
     public static void main(String[] args) {
-        int seeds = args.length > 0 ? Integer.parseInt(args[0]) : 150;
-        int calls = args.length > 1 ? Integer.parseInt(args[1]) : 300;
+        int seeds = args.length > 0 ? Integer.parseInt(args[0]) : 1000;
         for (int seed = 0; seed < seeds && Check.wrongSoFar() == 0; seed++) {
-            new ModelTest(seed).go(calls);
+            new ModelTest(seed).go();
         }
         Check.end("ModelTest");
     }
 
-    private void go(int calls) {
-        for (int i = 0; i < calls && Check.wrongSoFar() == 0; i++) {
+    private void go() {
+        while (x.callsLeft() > LOOK && Check.wrongSoFar() == 0) {
             oneCall();
-            for (int w = 0; w < 8; w++) {
-                int what = w;
-                same("told(" + w + ")", () -> x.told(what), () -> m.told(what));
-            }
-            same("state()", () -> x.state(), () -> m.state);
-            if (random.nextInt(4) == 0) {
-                same("badAt()", () -> x.badAt(), () -> m.badAt());
-            }
-            if (random.nextInt(12) == 0) {
-                compareAll();
-            }
+            question();
         }
-        compareAll();
+        lookAt(x);
+        for (int i = 0; i < REPEATS && Check.wrongSoFar() == 0; i++) {
+            lookAt(again());
+        }
     }
 
-    private void compareAll() {
-        for (int p = 0; p < m.pageCount; p++) {
-            for (int i = 0; i < 128; i++) {
-                int page = p;
-                int octet = i;
-                same("octet", () -> x.octet(page, octet), () -> m.octet(page, octet));
-            }
+    /** Another object after the same calls, without the questions: there are more left for octets. */
+    private House again() {
+        House other = new House(pages);
+        for (Call call : made) {
+            told(() -> call.make(other));
         }
+        return other;
+    }
+
+    private void lookAt(House on) {
+        for (int w = -1; w < 9; w++) {
+            int what = w;
+            same("told(" + w + ")", () -> on.told(what), () -> m.told(what));
+        }
+        same("badAt()", () -> on.badAt(), () -> m.badAt());
         for (int r = 0; r <= m.now.size(); r++) {
-            for (int w = -1; w < 6; w++) {
+            for (int w = 0; w < 6; w++) {
                 int run = r;
                 int what = w;
-                same("run", () -> x.run(run, what), () -> m.run(run, what));
+                same("run(" + r + ", " + w + ")", () -> on.run(run, what), () -> m.run(run, what));
             }
+        }
+        while (on.callsLeft() >= 128) {
+            int page = random.nextInt(4) == 0 ? random.nextInt(2) : random.nextInt(Math.min(pages, m.highest + 2));
+            for (int i = 0; i < 128; i++) {
+                int octet = i;
+                same("octet(" + page + ", " + i + ")", () -> on.octet(page, octet), () -> m.octet(page, octet));
+            }
+        }
+    }
+
+    private void question() {
+        int pick = random.nextInt(14);
+        if (pick < 8) {
+            same("told(" + pick + ")", () -> x.told(pick), () -> m.told(pick));
+        } else if (pick < 10) {
+            same("state()", () -> x.state(), () -> m.state);
+        } else if (pick < 11) {
+            same("badAt()", () -> x.badAt(), () -> m.badAt());
+        } else {
+            int run = random.nextInt(m.now.size() + 2) - random.nextInt(2);
+            int what = random.nextInt(6);
+            same("run(" + run + ", " + what + ")", () -> x.run(run, what), () -> m.run(run, what));
         }
     }
 
@@ -85,6 +115,12 @@ final class ModelTest {
 
     private void same(String call, Ask ours, Ask due) {
         Check.due(name + call, told(ours), told(due));
+    }
+
+    /** A call that may change something. */
+    private void act(String call, Call ours, Ask due) {
+        made.add(ours);
+        same(call, () -> ours.make(x), due);
     }
 
     private long key() {
@@ -113,7 +149,7 @@ final class ModelTest {
             if (flavour > 3 && random.nextInt(4) != 0) {
                 forge();
             }
-            same("open()", () -> x.open(), () -> m.open());
+            act("open()", on -> on.open(), () -> m.open());
             return;
         }
         int pick = random.nextInt(100);
@@ -122,9 +158,9 @@ final class ModelTest {
         } else if (pick < 34) {
             callMany();
         } else if (pick < 44) {
-            same("flush()", () -> x.flush(), () -> m.flush());
+            act("flush()", on -> on.flush(), () -> m.flush());
         } else if (pick < 54) {
-            same("merge()", () -> x.merge(), () -> m.merge());
+            act("merge()", on -> on.merge(), () -> m.merge());
         } else if (pick < 60) {
             callMarks();
         } else if (pick < 74) {
@@ -144,13 +180,13 @@ final class ModelTest {
         long value = value();
         switch (random.nextInt(3)) {
             case 0:
-                same("put(" + key + ", " + value + ")", () -> x.put(key, value), () -> m.one(1, key, value));
+                act("put(" + key + ", " + value + ")", on -> on.put(key, value), () -> m.one(1, key, value));
                 break;
             case 1:
-                same("remove(" + key + ")", () -> x.remove(key), () -> m.one(2, key, 0));
+                act("remove(" + key + ")", on -> on.remove(key), () -> m.one(2, key, 0));
                 break;
             default:
-                same("fold(" + key + ", " + value + ")", () -> x.fold(key, value), () -> m.one(3, key, value));
+                act("fold(" + key + ", " + value + ")", on -> on.fold(key, value), () -> m.one(3, key, value));
         }
     }
 
@@ -160,23 +196,23 @@ final class ModelTest {
         long from = random.nextInt(3) == 0 ? lastFrom : key();
         long step = random.nextInt(4) == 0 ? key() : random.nextInt(5);
         lastFrom = from;
-        same("many(" + kind + ", " + n + ", " + from + ", " + step + ")",
-                () -> x.many(kind, n, from, step), () -> m.many(kind, n, from, step));
+        act("many(" + kind + ", " + n + ", " + from + ", " + step + ")",
+                on -> on.many(kind, n, from, step), () -> m.many(kind, n, from, step));
     }
 
     private void callMarks() {
         if (random.nextInt(2) == 0) {
-            same("mark()", () -> x.mark(), () -> m.mark());
+            act("mark()", on -> on.mark(), () -> m.mark());
         } else {
             int mark = markNumber();
-            same("release(" + mark + ")", () -> x.release(mark), () -> m.release(mark));
+            act("release(" + mark + ")", on -> on.release(mark), () -> m.release(mark));
         }
     }
 
     private void callGet() {
         int mark = markNumber();
         long key = key();
-        same("get(" + mark + ", " + key + ")", () -> x.get(mark, key), () -> m.get(mark, key));
+        act("get(" + mark + ", " + key + ")", on -> on.get(mark, key), () -> m.get(mark, key));
     }
 
     private void callRange() {
@@ -184,30 +220,30 @@ final class ModelTest {
         boolean all = random.nextInt(3) == 0;
         long from = all ? Long.MIN_VALUE : key();
         long to = all ? Long.MAX_VALUE : random.nextInt(3) == 0 ? key() : from + random.nextInt(100);
-        same("range(" + mark + ", " + from + ", " + to + ")",
-                () -> x.range(mark, from, to), () -> m.range(mark, from, to));
-        for (int i = -1; i < 205; i += 1 + random.nextInt(9)) {
-            int at = i;
+        act("range(" + mark + ", " + from + ", " + to + ")",
+                on -> on.range(mark, from, to), () -> m.range(mark, from, to));
+        for (int i = 0; i < 4; i++) {
+            int at = random.nextInt(3) == 0 ? random.nextInt(203) - 1 : random.nextInt(Math.min(m.asked.size(), 203) + 1);
             int what = random.nextInt(8) == 0 ? random.nextInt(5) - 1 : random.nextInt(2);
-            same("at(" + i + ", " + what + ")", () -> x.at(at, what), () -> m.at(at, what));
+            same("at(" + at + ", " + what + ")", () -> x.at(at, what), () -> m.at(at, what));
         }
     }
 
     /** Pages and a head that are right by their sums, but of which no plain run of calls comes to think. */
     private void forge() {
-        List<Integer> pages = new ArrayList<>();
+        List<Integer> begins = new ArrayList<>();
         for (int p = 2; p < m.pageCount; p++) {
             if (chain(p) > 0) {
-                pages.add(p);
+                begins.add(p);
             }
         }
-        if (pages.isEmpty()) {
+        if (begins.isEmpty()) {
             return;
         }
         for (int i = random.nextInt(3); i > 0; i--) {
-            forgePage(pages.get(random.nextInt(pages.size())));
+            forgePage(begins.get(random.nextInt(begins.size())));
         }
-        forgeHead(pages);
+        forgeHead(begins);
     }
 
     /** Of how many pages a run could be that begins with this one. */
@@ -244,7 +280,7 @@ final class ModelTest {
         lay(page, octets);
     }
 
-    private void forgeHead(List<Integer> pages) {
+    private void forgeHead(List<Integer> begins) {
         int head = random.nextInt(2);
         int generation = m.generation + 1 + random.nextInt(3);
         generation += generation % 2 == head ? 0 : 1;
@@ -260,7 +296,7 @@ final class ModelTest {
         Model.number(o, Math.max(0, next), 2);
         Model.number(o, levels.size(), 1);
         for (int level : levels) {
-            int first = pages.get(random.nextInt(pages.size()));
+            int first = begins.get(random.nextInt(begins.size()));
             int most = Math.max(1, chain(first));
             boolean odd = random.nextInt(60) == 0;
             Model.number(o, odd ? random.nextInt(9) : m.read(first, 0, 2), 2);
@@ -275,6 +311,10 @@ final class ModelTest {
     }
 
     private void lay(int page, int[] octets) {
+        made.add(on -> {
+            Forge.lay(on, page, octets);
+            return 0;
+        });
         Forge.lay(x, page, octets);
         m.lay(page, octets);
     }
@@ -288,8 +328,8 @@ final class ModelTest {
         if (pick < 3) {
             int at = random.nextInt(8) == 0 ? random.nextInt(1010) - 3 : random.nextInt(5);
             int behind = random.nextInt(3) == 0 ? random.nextInt(130) - 1 : random.nextInt(8);
-            same("cut(" + at + ", " + behind + ")", () -> {
-                x.cut(at, behind);
+            act("cut(" + at + ", " + behind + ")", on -> {
+                on.cut(at, behind);
                 return 0;
             }, () -> {
                 m.cut(at, behind);
@@ -299,17 +339,17 @@ final class ModelTest {
             int page = random.nextInt(3) == 0 ? m.generation % 2 : random.nextInt(Math.min(m.pageCount + 2, 30)) - 1;
             int octet = random.nextInt(3) == 0 ? random.nextInt(130) - 1 : random.nextInt(6);
             int mask = random.nextInt(10) == 0 ? random.nextInt(400) - 100 : 1 << random.nextInt(8);
-            same("poke(" + page + ", " + octet + ", " + mask + ")", () -> {
-                x.poke(page, octet, mask);
+            act("poke(" + page + ", " + octet + ", " + mask + ")", on -> {
+                on.poke(page, octet, mask);
                 return 0;
             }, () -> {
                 m.poke(page, octet, mask);
                 return 0;
             });
         } else if (pick < 8) {
-            same("down()", () -> x.down() ? 1 : 0, () -> m.down() ? 1 : 0);
+            act("down()", on -> on.down() ? 1 : 0, () -> m.down() ? 1 : 0);
         } else {
-            same("open()", () -> x.open(), () -> m.open());
+            act("open()", on -> on.open(), () -> m.open());
         }
     }
 }

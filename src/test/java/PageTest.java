@@ -13,7 +13,7 @@ final class PageTest {
     }
 
     private static void runs() {
-        SortedRuns x = new SortedRuns(30);
+        House x = new House(30);
         Check.indexThrown("no run", () -> x.run(0, 0));
         x.many(1, 60, 0, 1);
         x.flush();
@@ -43,7 +43,7 @@ final class PageTest {
     }
 
     private static void octets() {
-        SortedRuns x = new SortedRuns(5);
+        House x = new House(5);
         x.put(-1, -1);
         x.flush();
         Check.due("an octet above 127", x.octet(2, 7), 255);
@@ -60,7 +60,7 @@ final class PageTest {
     }
 
     private static void pokes() {
-        SortedRuns x = new SortedRuns(6);
+        House x = new House(6);
         x.put(1, 1);
         x.flush();
         x.poke(2, 7, 129);
@@ -72,7 +72,7 @@ final class PageTest {
         x.poke(1, 0, 1);
         Check.due("also when down", x.octet(1, 0), 1);
         Check.due("both heads are wrong", x.open(), -1);
-        SortedRuns y = new SortedRuns(6);
+        House y = new House(6);
         y.poke(0, 0, 1);
         Check.due("0s from 0 on are right", y.octet(0, 0), 1);
         Check.stateThrown("0s from 2 on are not", () -> y.poke(2, 0, 1));
@@ -83,7 +83,7 @@ final class PageTest {
     }
 
     private static void pokeWrong() {
-        SortedRuns x = new SortedRuns(6);
+        House x = new House(6);
         int[] masks = {Integer.MIN_VALUE, -1, 0, 256, Integer.MAX_VALUE};
         for (int mask : masks) {
             Check.argumentThrown("mask " + mask, () -> x.poke(1, 0, mask));
@@ -101,7 +101,7 @@ final class PageTest {
     }
 
     private static void badPages() {
-        SortedRuns x = new SortedRuns(20);
+        House x = new House(20);
         x.many(1, 60, 0, 1);
         x.flush();
         x.put(1, 1);
@@ -118,7 +118,7 @@ final class PageTest {
         Check.due("nothing was read", x.told(2), 0);
         x.down();
         Check.due("down", x.badAt(), SortedRuns.NONE);
-        SortedRuns y = new SortedRuns(4);
+        House y = new House(4);
         y.poke(1, 5, 1);
         Check.due("the first head", y.badAt(), 1);
         y.put(1, 1);
@@ -127,7 +127,7 @@ final class PageTest {
     }
 
     private static void badPagesOfMarks() {
-        SortedRuns x = new SortedRuns(20);
+        House x = new House(20);
         x.put(1, 1);
         x.mark();
         x.remove(1);

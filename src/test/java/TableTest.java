@@ -17,13 +17,15 @@ final class TableTest {
     }
 
     private static void newObject() {
-        SortedRuns x = new SortedRuns(6);
-        Check.duePage("new", x, 1, 0, 0, 0, 1, 0, 1, 0);
         for (int page = 0; page < 6; page++) {
-            for (int i = 0; i < 128 && page != 1; i++) {
-                Check.due("new octet(" + page + ", " + i + ")", x.octet(page, i), 0);
+            House x = new House(6);
+            if (page == 1) {
+                Check.duePage("new", x, 1, 0, 0, 0, 1, 0, 1, 0);
+            } else {
+                Check.dueOctets("new", x, page, 0, new int[128]);
             }
         }
+        House x = new House(6);
         int[] told = {4, 0, 0, 0, 0, 0, 1, 0};
         for (int what = 0; what < 8; what++) {
             Check.due("new told(" + what + ")", x.told(what), told[what]);
@@ -38,7 +40,7 @@ final class TableTest {
         int[] asked = {Integer.MIN_VALUE, -1, 0, 3, 4, 5, 1023, 1024, 1025, Integer.MAX_VALUE};
         int[] free = {2, 2, 2, 2, 2, 3, 1021, 1022, 1022, 1022};
         for (int i = 0; i < asked.length; i++) {
-            SortedRuns x = new SortedRuns(asked[i]);
+            House x = new House(asked[i]);
             int pages = free[i] + 2;
             Check.due("free of " + asked[i], x.told(0), free[i]);
             Check.due("last octet of " + asked[i], x.octet(pages - 1, 127), 0);
@@ -47,7 +49,7 @@ final class TableTest {
     }
 
     private static void putCounts() {
-        SortedRuns x = new SortedRuns(20);
+        House x = new House(20);
         Check.due("put first", x.put(5, 1), 1);
         Check.due("put second", x.put(Long.MIN_VALUE, -1), 2);
         Check.due("put over", x.put(5, 2), 2);
@@ -61,7 +63,7 @@ final class TableTest {
     }
 
     private static void removeEnds() {
-        SortedRuns x = new SortedRuns(20);
+        House x = new House(20);
         x.put(1, 10);
         Check.due("remove one there", x.remove(1), 1);
         Check.due("remove one not there", x.remove(2), 2);
@@ -72,7 +74,7 @@ final class TableTest {
     }
 
     private static void foldAdds() {
-        SortedRuns x = new SortedRuns(20);
+        House x = new House(20);
         Check.due("fold on none", x.fold(1, 5), 1);
         x.fold(1, 6);
         Check.due("fold on ADD", x.get(-1, 1), 11);
@@ -97,7 +99,7 @@ final class TableTest {
     }
 
     private static void fullTable() {
-        SortedRuns x = new SortedRuns(20);
+        House x = new House(20);
         for (int i = 0; i < 64; i++) {
             Check.due("put " + i, x.put(i, i), i + 1);
         }
@@ -113,7 +115,7 @@ final class TableTest {
     }
 
     private static void downTable() {
-        SortedRuns x = new SortedRuns(20);
+        House x = new House(20);
         x.put(1, 1);
         x.down();
         Check.stateThrown("put down", () -> x.put(1, 1));
@@ -126,7 +128,7 @@ final class TableTest {
     }
 
     private static void manyEntries() {
-        SortedRuns x = new SortedRuns(20);
+        House x = new House(20);
         Check.due("many puts", x.many(1, 10, 100, -3), 10);
         Check.due("value of the first", x.get(-1, 100), 0);
         Check.due("value of the last", x.get(-1, 73), 9);
@@ -141,7 +143,7 @@ final class TableTest {
     }
 
     private static void manyFlushesAndMerges() {
-        SortedRuns x = new SortedRuns(400);
+        House x = new House(400);
         Check.due("64 stay in the table", x.many(1, 64, 0, 1), 64);
         Check.due("no run yet", x.told(4), 0);
         Check.due("one of 64 needs no place", x.many(3, 1, 63, 1), 1);
@@ -165,7 +167,7 @@ final class TableTest {
     }
 
     private static void manyWithoutPlace() {
-        SortedRuns x = new SortedRuns(4);
+        House x = new House(4);
         // 64 keys in a row need 3 pages, and 2 are free.
         Check.due("no place for a 65th", x.many(1, 70, 0, 1), 64);
         Check.due("the table stays", x.told(1), 64);
@@ -175,7 +177,7 @@ final class TableTest {
     }
 
     private static void manyCut() {
-        SortedRuns x = new SortedRuns(100);
+        House x = new House(100);
         x.cut(1, 0);
         Check.due("cut at the 65th", x.many(1, 100, 0, 1), 64);
         Check.due("down", x.told(7), 1);
@@ -190,7 +192,7 @@ final class TableTest {
     }
 
     private static void manyWrong() {
-        SortedRuns x = new SortedRuns(20);
+        House x = new House(20);
         int[] kinds = {Integer.MIN_VALUE, -1, 0, 4, Integer.MAX_VALUE};
         for (int kind : kinds) {
             Check.argumentThrown("kind " + kind, () -> x.many(kind, 1, 0, 0));
