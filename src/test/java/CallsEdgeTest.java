@@ -162,19 +162,26 @@ final class CallsEdgeTest {
 
     /** "MERGE, if 6 are of LEVEL 0, then FLUSH". */
     private static void manyMerges() {
-        for (int fresh = 5; fresh <= 6; fresh++) {
+        int[][] cases = {{5, 0}, {6, 0}, {4, 1}, {5, 1}, {6, 1}};
+        for (int[] c : cases) {
             House x = new House(60);
-            for (int i = 0; i < fresh; i++) {
+            int fresh = c[0];
+            int older = c[1];
+            for (int i = -older; i < fresh; i++) {
                 x.put(i, 1);
                 x.flush();
+                if (i < 0) {
+                    x.merge();
+                }
             }
             x.many(1, 64, 100, 1);
-            Check.due("RUNS", x.told(4), fresh);
+            Check.due("RUNS", x.told(4), fresh + older);
+            int read = x.told(2);
             Check.due("one more", x.many(1, 1, 1000, 1), 1);
-            Check.due(fresh + " of LEVEL 0: READ", x.told(2), fresh == 6 ? 6 : 0);
-            Check.due("RUNS", x.told(4), fresh == 6 ? 2 : 6);
+            Check.due(fresh + " of LEVEL 0: READ", x.told(2) - read, fresh == 6 ? 6 + older : 0);
+            Check.due("RUNS", x.told(4), fresh == 6 ? 2 : fresh + older + 1);
             Check.due("the newest", x.run(0, 3), 64);
-            Check.due("LEVEL of the oldest", x.run(x.told(4) - 1, 1), fresh == 6 ? 1 : 0);
+            Check.due("LEVEL of the oldest", x.run(x.told(4) - 1, 1), fresh == 6 ? 1 : older);
         }
     }
 

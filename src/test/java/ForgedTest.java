@@ -25,6 +25,7 @@ final class ForgedTest {
         pagesRight();
         pagesWrong();
         nextPages();
+        lastPageNamesAnother();
         headIsNoPageOfARun();
         greatNumbers();
         Check.end("ForgedTest");
@@ -342,6 +343,42 @@ final class ForgedTest {
         Check.due("it is read", y.told(2), 1);
         House z = withHead(changed(headOf(0), 10, 1));
         Check.due("first page 258", z.open(), -2 - 258);
+    }
+
+    /** The last page of a run names one that is not its own, with keys that are in its span. */
+    private static void lastPageNamesAnother() {
+        House x = withHead(changed(headOf(0, 1), 18, 3));
+        // Run 7 on page 2: keys 1, 9; it names page 3: run 7, of level 1: key 5.
+        Forge.lay(x, 2, 0, 7, 0, 3, 2, 0, 128, 0, 0, 0, 0, 0, 0, 1, 1, 6, 7, 9, 1, 6);
+        Forge.lay(x, 3, 0, 7, 0, 2, 1, 0, 128, 0, 0, 0, 0, 0, 0, 5, 1, 8);
+        Check.due("open", x.open(), 2);
+        Check.due("pages", x.run(0, 2), 1);
+        Check.due("the last key", x.get(-1, 9), 3);
+        Check.due("read", x.told(2), 3);
+        Check.due("of the older run", x.get(-1, 5), 4);
+        int read = x.told(2);
+        long[][] ranges = {{0, 10, 3}, {2, 10, 2}, {6, 10, 1}, {9, 9, 1}, {10, 20, 0}, {0, 5, 2}};
+        for (long[] r : ranges) {
+            Check.due("range(" + r[0] + ", " + r[1] + ")", x.range(-1, r[0], r[1]), r[2]);
+        }
+        Check.due("read", x.told(2) - read, 12);
+        Check.due("badAt", x.badAt(), SortedRuns.NONE);
+        Check.due("merge", x.merge(), 1);
+        Check.due("entries", x.run(0, 3), 3);
+        House y = withHead(changed(headOf(0), 13, 2));
+        // Pages 2, 4 are of the run: keys 1 and 9; the last one names page 3, which is free.
+        Forge.lay(y, 2, changed(ONE_ENTRY, 3, 4));
+        Forge.lay(y, 4, 0, 7, 0, 3, 1, 0, 128, 0, 0, 0, 0, 0, 0, 9, 1, 6);
+        Forge.lay(y, 3, 0, 7, 0, 0, 1, 0, 128, 0, 0, 0, 0, 0, 0, 12, 1, 8);
+        Check.due("open", y.open(), 1);
+        Check.due("free", y.told(0), 26);
+        long[] froms = {0, 2, 9, 10};
+        int[] counts = {2, 1, 1, 0};
+        for (int i = 0; i < 4; i++) {
+            Check.due("range from " + froms[i], y.range(-1, froms[i], 20), counts[i]);
+        }
+        Check.due("merge", y.merge(), 1);
+        Check.due("entries", y.run(0, 3), 2);
     }
 
     /** Octets that are a right head and just as much a page of the run (0, on page 1) which it names. */

@@ -13,6 +13,7 @@ final class LookupEdgeTest {
         filterOfThreeBits();
         filterOfItsNumber();
         lastPageNotAbove();
+        nextPageIsNotRead();
         badAtOnce();
         badNotComeUpon();
         fromNoughtOn();
@@ -100,15 +101,21 @@ final class LookupEdgeTest {
 
     /** "FILTER .. for each of its keys three ..": "It bars a key of which one of three is 0". */
     private static void filterOfThreeBits() {
-        long step = 1000;
-        boolean[] bits = filter(1, 64, 0, step);
+        filterOfThreeBits(0, 1000, 1);
+        filterOfThreeBits(-12345, 123456789, 9999);
+        // Keys of which all 64 bits count.
+        filterOfThreeBits(Long.MIN_VALUE + 7, 0x0301010101010101L, 0x0123456789abL);
+    }
+
+    private static void filterOfThreeBits(long from, long step, long by) {
+        boolean[] bits = filter(1, 64, from, step);
         int[] found = new int[8];
         House x = new House(20);
-        x.many(1, 64, 0, step);
+        x.many(1, 64, from, step);
         x.flush();
-        for (long key = 1; key < 63 * step && x.callsLeft() > 20; key++) {
+        for (long key = from + by; key < from + 63 * step && x.callsLeft() > 20; key += by) {
             int none = noughts(bits, key, 1);
-            if (key % step != 0 && found[none] < 8) {
+            if ((key - from) % step != 0 && found[none] < 8) {
                 found[none]++;
                 Check.due("hidden(" + key + ")", x.hidden(key), none > 0);
                 dueGet(x, -1, key, 0, NOTHING, none > 0 ? 0 : 1);
@@ -160,6 +167,22 @@ final class LookupEdgeTest {
                         isBad ? BAD : there ? VALUE : NOTHING, 1);
             }
         }
+    }
+
+    /** No other page is looked at: not the next one, though its first key, BAD as it is, is the one asked for. */
+    private static void nextPageIsNotRead() {
+        long from = 0;
+        while (noughts(filter(1, 60, from, 2), from + 53, 1) > 0) {
+            from += 2;
+        }
+        House x = new House(20);
+        x.many(1, 60, from, 2);
+        x.flush();
+        Check.due("the first key's last octet", x.octet(3, 13), (from + 54) % 256);
+        x.poke(3, 13, (int) ((from + 54) % 256 ^ (from + 53) % 256));
+        dueGet(x, -1, from + 53, 0, NOTHING, 1);
+        dueGet(x, -1, from + 52, 26, VALUE, 1);
+        dueGet(x, -1, from + 54, 0, BAD, 1);
     }
 
     /** "is its SUM wrong: BAD, at once". */

@@ -49,6 +49,7 @@ final class OpenEdgeTest {
         noHeadIsRight();
         notDown();
         everyPageOnce();
+        openedOnceMore();
         pageSum();
         pageOfAnotherRun();
         pageMissing();
@@ -168,7 +169,40 @@ final class OpenEdgeTest {
             Check.due("the first that is wrong", x.open(), bad < order.length ? -2 - order[bad] : 2);
             Check.due("READ", x.told(2), Math.min(bad + 1, order.length));
             Check.due("DOWN", x.told(7), bad < order.length ? 1 : 0);
+            Check.due("RUNS", x.told(4), bad < order.length ? 0 : 2);
+            if (bad < order.length) {
+                Check.indexThrown("no RUN, not even one that was READ well", () -> x.run(0, 0));
+                Check.due("FREE", x.told(0), 0);
+            }
         }
+    }
+
+    /** What was looked up, or opened in vain, before it is of no account. */
+    private static void openedOnceMore() {
+        House x = new House(20);
+        x.many(1, 60, 0, 1);
+        x.flush();
+        long[] keys = {0, 1, 26, 27, 58, 59};
+        for (long key : keys) {
+            Check.due("get", x.get(-1, key), key);
+            x.down();
+            Check.due("open", x.open(), 1);
+            Check.due("ENTRIES", x.run(0, 3), 60);
+        }
+        House y = begun(40);
+        y.many(1, 40, 1, 1);
+        y.cut(2, 0);
+        y.flush();
+        y.open();
+        Check.due("wrong", opened(y), -2 - 4);
+        Check.due("wrong once more", y.open(), -2 - 4);
+        y.poke(1, 0, 1);
+        Check.due("the older HEAD", y.open(), 1);
+        y.many(1, 40, 0, 1);
+        Check.due("flush", y.flush(), 2);
+        y.down();
+        Check.due("well", y.open(), 2);
+        Check.due("ENTRIES", y.run(0, 3), 40);
     }
 
     /** "its SUM is wrong". */

@@ -13,6 +13,9 @@ final class RunsEdgeTest {
         sumsGoRound();
         sumsGoRoundInRuns();
         sixOfLevelNought();
+        allNine();
+        allNineMerged();
+        mergeWithoutTheTable();
         eightPages();
         eightPagesBeforeLevelTwo();
         twentyFourPages();
@@ -23,6 +26,7 @@ final class RunsEdgeTest {
         noneOlderAsPagesAreCountedOnceMore();
         addsThatAreLeft();
         noneIsMade();
+        takenAreGone();
         pagesThatAMarkHas();
         pagesTakenAreNotFree();
         upToTheFirstBad();
@@ -137,6 +141,93 @@ final class RunsEdgeTest {
         x.merge();
         Check.due("one of LEVEL 1", x.told(4), 1);
         Check.due("and now there is place", x.flush(), 10);
+    }
+
+    /** 6 of LEVEL 0 and one of each other, with some 40 keys each in the newer ones. */
+    private static House nineRuns(int keys) {
+        House x = new House(300);
+        spread(x, -128, 250, 0);
+        x.merge();
+        spread(x, -128, 100, 1);
+        x.merge();
+        spread(x, -128, 10, 2);
+        x.merge();
+        for (int i = 0; i < 6; i++) {
+            spread(x, -128 + 42 * i, keys, 3);
+        }
+        Check.due("RUNS", x.told(4), 9);
+        int[] levels = {0, 0, 0, 0, 0, 0, 1, 2, 3};
+        for (int i = 0; i < 9; i++) {
+            Check.due("LEVEL of the " + i + "th", x.run(i, 1), levels[i]);
+        }
+        return x;
+    }
+
+    /** As many RUNS as there can be, and the table. */
+    private static void allNine() {
+        House x = nineRuns(1);
+        Check.due("mark", x.mark(), 0);
+        x.put(5, 5);
+        Check.due("all of now", x.range(-1, LEAST, MOST), 250 + 100 + 10 + 6 + 1);
+        Check.due("all of the MARK", x.range(0, LEAST, MOST), 250 + 100 + 10 + 6);
+        Check.due("the oldest", x.get(-1, 100 * SPREAD), 36);
+        Check.due("the oldest, of the MARK", x.get(0, 100 * SPREAD), 36);
+        Check.due("no FLUSH can be", x.flush(), SortedRuns.NONE);
+        x.down();
+        Check.due("open", x.open(), 9);
+        Check.due("all", x.range(-1, LEAST, MOST), 250 + 100 + 10 + 6);
+        int head = x.told(6) % 2;
+        Check.due("on the HEAD", x.octet(head, 6), 9);
+        for (int i = 0; i < 9; i++) {
+            int at = 7 + 7 * i;
+            Check.dueOctets("on the HEAD", x, head, at, 0, x.run(i, 0), x.run(i, 1), 0, x.run(i, 4), 0, x.run(i, 2));
+        }
+        Check.dueOctets("0s behind", x, head, 70, 0, 0, 0, 0, 0, 0, 0, 0);
+        Check.due("mark", x.mark(), 0);
+        int free = x.told(0);
+        Check.due("merge: those of LEVEL 0, 1 stay for the MARK", x.merge(), -2);
+        Check.due("release: 7 RUNS of a page each", x.release(0), 7);
+        Check.due("FREE", x.told(0), free + 5);
+    }
+
+    private static void allNineMerged() {
+        House x = nineRuns(42);
+        x.put(5, 5);
+        x.range(-1, LEAST, LEAST);
+        int read = 0;
+        for (int i = 0; i < 9; i++) {
+            read += x.run(i, 2);
+        }
+        int before = x.told(2);
+        int free = x.told(0);
+        int written = x.told(3);
+        int merged = x.merge();
+        Check.due("READ", x.told(2) - before, read);
+        Check.due("FREE", x.told(0), free + merged);
+        Check.due("written", x.told(3) - written, x.run(0, 2) + 1);
+        Check.due("RUNS", x.told(4), 1);
+        Check.due("LEVEL", x.run(0, 1), 3);
+        Check.due("ENTRIES, not that of the table", x.run(0, 3), 250 + 100 + 10 + 252);
+        Check.due("pages", x.run(0, 2), read - merged);
+        Check.dueOctets("0s behind the one RUN", x, x.told(6) % 2, 14, 0, 0, 0, 0, 0, 0, 0, 0, 0, 0, 0, 0, 0, 0);
+    }
+
+    /** A range that ends before the table does leaves nothing of it to a MERGE. */
+    private static void mergeWithoutTheTable() {
+        House x = new House(40);
+        x.put(1, 1);
+        x.flush();
+        x.put(2, 2);
+        x.flush();
+        x.put(3, 3);
+        x.put(4, 4);
+        Check.due("range", x.range(-1, 0, 0), 0);
+        Check.due("merge", x.merge(), 1);
+        Check.due("ENTRIES", x.run(0, 3), 2);
+        Check.due("range of the MARK", x.range(-1, 0, 9), 4);
+        x.range(-1, 0, 1);
+        Check.due("flush", x.flush(), 4);
+        Check.due("ENTRIES", x.run(0, 3), 2);
     }
 
     /** "if that would have more than 8 pages, that of LEVEL 2 is taken as well, and it is of LEVEL 2". */
@@ -315,6 +406,43 @@ final class RunsEdgeTest {
             x.put(3, 3);
             Check.due("the next number", x.flush(), 3 + left);
         }
+    }
+
+    /** The RUNS taken are none of now any more, nor of a MARK that comes later. */
+    private static void takenAreGone() {
+        House x = new House(20);
+        x.put(1, 1);
+        x.flush();
+        x.remove(1);
+        x.put(2, 2);
+        x.flush();
+        Check.due("merge", x.merge(), 1);
+        int read = x.told(2);
+        Check.due("get", x.get(-1, 1), 0);
+        Check.due("state", x.state(), 0);
+        Check.due("hidden", x.hidden(1), false);
+        Check.due("READ", x.told(2), read);
+        Check.due("range", x.range(-1, LEAST, MOST), 1);
+        Check.due("READ", x.told(2), read + 1);
+        Check.due("mark", x.mark(), 0);
+        Check.due("get of the MARK", x.get(0, 1), 0);
+        Check.due("state", x.state(), 0);
+        Check.due("range of the MARK", x.range(0, LEAST, MOST), 1);
+        Check.due("READ", x.told(2), read + 2);
+        x.poke(2, 0, 1);
+        Check.due("page 2 is FREE", x.badAt(), SortedRuns.NONE);
+        Check.due("release", x.release(0), 0);
+        Check.due("FREE", x.told(0), 17);
+        x.remove(2);
+        x.flush();
+        Check.due("merge to nothing", x.merge(), 2);
+        Check.due("FREE", x.told(0), 18);
+        x.get(-1, 2);
+        Check.due("state", x.state(), 0);
+        Check.due("mark of no RUNS", x.mark(), 0);
+        Check.due("FREE", x.told(0), 18);
+        Check.due("range", x.range(0, LEAST, MOST), 0);
+        Check.due("release", x.release(0), 0);
     }
 
     /** "the pages of those taken are FREE then, unless a MARK has these". */

@@ -41,6 +41,7 @@ final class TermsEdgeTest {
     private static void dueValue(long value, int length) {
         House x = new House(6);
         x.put(1, value);
+        x.remove(2);
         x.flush();
         BigInteger z = without(value);
         for (int i = 0; i < length; i++) {
@@ -49,11 +50,14 @@ final class TermsEdgeTest {
             Check.due(value + ": more comes behind octet " + i, z.signum() > 0, i < length - 1);
             Check.due(value + ": octet " + i, x.octet(2, VALUE_AT + i), octet + (i < length - 1 ? 128 : 0));
         }
-        Check.due(value + ": 0 behind it", x.octet(2, VALUE_AT + length), 0);
-        Check.due(value + ": read again", x.get(-1, 1), value);
-        x.down();
-        Check.due(value + ": opened", x.open(), 1);
-        Check.due(value + ": read again", x.get(-1, 1), value);
+        Check.dueOctets(value + ": the END behind it", x, 2, VALUE_AT + length, 7, 2, 2, 0);
+        for (int opened = 0; opened < 2; opened++) {
+            Check.due(value + ": read again", x.get(-1, 1), value);
+            x.get(-1, 2);
+            Check.due(value + ": the END behind it", x.state(), 2);
+            x.down();
+            Check.due(value + ": opened", x.open(), 1);
+        }
     }
 
     /** "7 bits an octet, the lowest first, 128 more where more comes". */
@@ -170,6 +174,20 @@ final class TermsEdgeTest {
 
     /** The same with the octets of the ENTRY's own V. */
     private static void entryFitsWithItsValue() {
+        // 117 octets, then 116: an END has 3 more, a PUT of 0 has 4.
+        long[] firsts = {8192, 64};
+        for (long first : firsts) {
+            for (int kind = 1; kind <= 2; kind++) {
+                House x = new House(6);
+                x.put(0, first);
+                x.many(2, 33, 1, 1);
+                x.many(kind, 1, 34, 1);
+                x.flush();
+                boolean fits = kind == 2 || first == 64;
+                Check.due("kind " + kind + ": pages", x.run(0, 2), fits ? 1 : 2);
+                Check.due("kind " + kind + ": ENTRIES", x.octet(2, 4), fits ? 35 : 34);
+            }
+        }
         long[] values = {63, 64, -64, -65};
         for (long value : values) {
             House x = new House(6);
@@ -301,9 +319,11 @@ final class TermsEdgeTest {
             x.many(2, Math.min(1000, 64 * (250 - nextNumber(x))), 0, 1);
             x.merge();
         }
+        int puts = 0;
         for (int number = nextNumber(x); number < 258; number++) {
             Check.due("next number on the HEAD", nextNumber(x), number);
             x.put(number, number);
+            puts++;
             Check.due("flush", x.flush(), number);
             int page = x.run(0, 4);
             Check.dueOctets("number " + number, x, page, 0, number / 256, number % 256);
@@ -317,8 +337,13 @@ final class TermsEdgeTest {
         Check.due("opened", x.open() > 0, true);
         int newest = x.run(0, 0);
         Check.due("a number above 255", newest > 255, true);
-        x.put(1, 1);
+        x.many(1, 40, 0, 1);
         Check.due("the next", x.flush(), newest + 1);
+        // The HEAD on page 0 or 1 is no page of the RUN, whatever its octets are.
+        int[] froms = {0, 26, 27, 39, 40};
+        for (int from : froms) {
+            Check.due("range from " + from, x.range(-1, from, Long.MAX_VALUE), 40 - from + puts);
+        }
     }
 
     private static int nextNumber(House x) {
