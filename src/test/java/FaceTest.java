@@ -5,14 +5,33 @@ import java.lang.reflect.Modifier;
 import java.util.Set;
 import java.util.TreeSet;
 
-/** The public face: all of the document's, and nothing beside it. */
+/** The public face: all of the document's, with the exceptions in their order, and nothing beside it. */
 final class FaceTest {
+    private static final String STATE = "IllegalStateException";
+    private static final String INDEX = "IndexOutOfBoundsException";
+    private static final String ARGUMENT = "IllegalArgumentException";
     private static final Set<String> FACE = Set.of(
-            "int put(long, long)", "int remove(long)", "int fold(long, long)", "int many(int, int, long, long)",
-            "int flush()", "int merge()", "int mark()", "int release(int)", "long get(int, long)", "int state()",
-            "int range(int, long, long)", "long at(int, int)", "int run(int, int)", "boolean hidden(long)",
-            "int octet(int, int)", "void poke(int, int, int)", "int badAt()", "void cut(int, int)",
-            "boolean down()", "int open()", "int told(int)");
+            "int put(long, long) throws " + STATE,
+            "int remove(long) throws " + STATE,
+            "int fold(long, long) throws " + STATE,
+            "int many(int, int, long, long) throws " + STATE + ", " + ARGUMENT,
+            "int flush() throws " + STATE,
+            "int merge() throws " + STATE,
+            "int mark() throws " + STATE,
+            "int release(int) throws " + STATE + ", " + INDEX,
+            "long get(int, long) throws " + STATE + ", " + INDEX,
+            "int state()",
+            "int range(int, long, long) throws " + STATE + ", " + INDEX + ", " + ARGUMENT,
+            "long at(int, int) throws " + INDEX,
+            "int run(int, int) throws " + INDEX,
+            "boolean hidden(long) throws " + STATE,
+            "int octet(int, int) throws " + INDEX,
+            "void poke(int, int, int) throws " + INDEX + ", " + STATE + ", " + ARGUMENT,
+            "int badAt()",
+            "void cut(int, int) throws " + ARGUMENT,
+            "boolean down()",
+            "int open() throws " + STATE,
+            "int told(int) throws " + INDEX);
 
     public static void main(String[] args) {
         int kind = SortedRuns.class.getModifiers();
@@ -37,6 +56,8 @@ final class FaceTest {
         for (Method m : SortedRuns.class.getDeclaredMethods()) {
             if (!Modifier.isPrivate(m.getModifiers())) {
                 open.add(told(m));
+                boolean asOne = Modifier.isPublic(m.getModifiers()) && !Modifier.isStatic(m.getModifiers());
+                Check.due(m.getName() + " is public, of an object", asOne, true);
             } else {
                 for (String face : FACE) {
                     Check.due("private " + m.getName(), face.contains(" " + m.getName() + "("), false);
@@ -52,6 +73,10 @@ final class FaceTest {
         for (int i = 0; i < m.getParameterCount(); i++) {
             text.append(i == 0 ? "" : ", ").append(m.getParameterTypes()[i].getName());
         }
-        return text.append(')').toString();
+        text.append(')');
+        for (int i = 0; i < m.getExceptionTypes().length; i++) {
+            text.append(i == 0 ? " throws " : ", ").append(m.getExceptionTypes()[i].getSimpleName());
+        }
+        return text.toString();
     }
 }
